@@ -203,7 +203,7 @@ public final class TankerDesk {
             return NONE;
         }
         trial.copyFrom(state.cargo);
-        trial.lay(compartment, NONE, liquid, quantity);
+        trial.lay(told, compartment, NONE, liquid, quantity);
         return trial.standing(told, 0);
     }
 
@@ -299,7 +299,7 @@ public final class TankerDesk {
         }
         history.keep(state);
         int amount = Math.min(top, told.dropQuantity[drop] - state.cargo.loaded(drop));
-        state.cargo.lay(compartment, drop, liquid, amount);
+        state.cargo.lay(told, compartment, drop, liquid, amount);
         return amount;
     }
 
@@ -315,7 +315,7 @@ public final class TankerDesk {
         for (int c = 0; c < told.compartments; c++) {
             int drop = planner.bestDrop[c];
             if (state.hasDrop(drop)) {
-                state.cargo.lay(c, drop, told.dropLiquid[drop], planner.bestAmount[c]);
+                state.cargo.lay(told, c, drop, told.dropLiquid[drop], planner.bestAmount[c]);
             }
         }
         return planner.bestServed;
@@ -458,7 +458,8 @@ public final class TankerDesk {
                 if (token == TEXT_END) {
                     return true;
                 }
-                if (!readLine()) {
+                boolean right = lines == 0 ? readTanker() : readOther();
+                if (!right || !readSign()) {
                     return false;
                 }
                 lines++;
@@ -472,11 +473,7 @@ public final class TankerDesk {
             return false;
         }
 
-        private boolean readLine() {
-            boolean right = lines == 0 ? readTanker() : readOther();
-            if (!right) {
-                return false;
-            }
+        private boolean readSign() {
             advance();
             return token == SIGN || refuse(UNFIT_TOKEN);
         }
@@ -667,27 +664,32 @@ public final class TankerDesk {
         final int[] held = new int[MOST_COMPARTMENTS];
         final int[] owner = new int[MOST_COMPARTMENTS];
         final int[] last = new int[MOST_COMPARTMENTS];
+        private final int[] weight = new int[MOST_COMPARTMENTS];
 
         void copyFrom(Cargo other) {
             System.arraycopy(other.held, 0, held, 0, MOST_COMPARTMENTS);
+            System.arraycopy(other.weight, 0, weight, 0, MOST_COMPARTMENTS);
             System.arraycopy(other.owner, 0, owner, 0, MOST_COMPARTMENTS);
             System.arraycopy(other.last, 0, last, 0, MOST_COMPARTMENTS);
         }
 
         void begin(Told told) {
             Arrays.fill(held, 0);
+            Arrays.fill(weight, 0);
             Arrays.fill(owner, NONE);
             System.arraycopy(told.last, 0, last, 0, MOST_COMPARTMENTS);
         }
 
-        void lay(int compartment, int drop, int liquid, int amount) {
+        void lay(Told told, int compartment, int drop, int liquid, int amount) {
             held[compartment] = amount;
+            weight[compartment] = amount * told.density[liquid];
             owner[compartment] = drop;
             last[compartment] = liquid;
         }
 
         void takeOut(int compartment) {
             held[compartment] = 0;
+            weight[compartment] = 0;
             owner[compartment] = NONE;
         }
 
@@ -739,7 +741,7 @@ public final class TankerDesk {
             int width = told.head[W];
             int sum = told.head[FRONT] * width;
             for (int c = 0; c < told.compartments; c++) {
-                sum += weight(told, c, gone) * (width - told.x[c]);
+                sum += isIn(gone, c) ? 0 : weight[c] * (width - told.x[c]);
             }
             return sum;
         }
@@ -747,17 +749,9 @@ public final class TankerDesk {
         int rearLoad(Told told, int gone) {
             int sum = told.head[REAR] * told.head[W];
             for (int c = 0; c < told.compartments; c++) {
-                sum += weight(told, c, gone) * told.x[c];
+                sum += isIn(gone, c) ? 0 : weight[c] * told.x[c];
             }
             return sum;
-        }
-
-        private int weight(Told told, int compartment, int gone) {
-            if (held[compartment] == 0 || isIn(gone, compartment)) {
-                return 0;
-            }
-            int liquid = last[compartment];
-            return told.hasLiquid(liquid) ? held[compartment] * told.density[liquid] : 0;
         }
 
         private boolean surges(Told told, int gone) {
@@ -1054,7 +1048,7 @@ public final class TankerDesk {
             if (barred && !washing) {
                 return false;
             }
-            trial.lay(compartment, who[i], liquid, amount);
+            trial.lay(told, compartment, who[i], liquid, amount);
             lack[i] -= amount;
             used++;
             washed += barred ? 1 : 0;
@@ -1075,7 +1069,7 @@ public final class TankerDesk {
             for (int i = 0; i < waiting; i++) {
                 served += lack[i] == 0 ? 1 : 0;
             }
-            if (isBetter(served) && isAllowed()) {
+            if (isBetter(served) && trial.standing(told, 0) == LAWFUL && table.count(told, trial, state.drops) > 0) {
                 found = true;
                 bestWashed = washed;
                 bestServed = served;
@@ -1087,10 +1081,6 @@ public final class TankerDesk {
         /** Among equals the one that was dealt first stays: it gives the first compartments the least drops. */
         private boolean isBetter(int served) {
             return !found || washing || served > bestServed || served == bestServed && used < bestUsed;
-        }
-
-        private boolean isAllowed() {
-            return trial.standing(told, 0) == LAWFUL && table.count(told, trial, state.drops) > 0;
         }
 
         private void keepDeal() {

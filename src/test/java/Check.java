@@ -1,5 +1,7 @@
 import java.nio.charset.StandardCharsets;
 import java.util.NoSuchElementException;
+import java.util.function.Consumer;
+import java.util.function.Supplier;
 
 /** What the tests have in common: texts put on a desk's tape, and answers held against what is due. */
 final class Check {
@@ -85,6 +87,36 @@ final class Check {
         }
         all.append(desk.fault());
         return all.toString();
+    }
+
+    /** A picture, and all that is found by searching. */
+    static String wholePicture(TankerDesk desk) {
+        StringBuilder all = new StringBuilder(picture(desk)).append(" / ");
+        all.append(desk.orders()).append(' ').append(desk.washes()).append(' ');
+        for (int i = -1; i <= 25; i++) {
+            all.append(desk.ordered(i)).append(' ').append(desk.without(i)).append(' ').append(desk.plan(i)).append(' ');
+        }
+        for (int c = 0; c < 5; c++) {
+            for (int quantity = 0; quantity < 10; quantity++) {
+                all.append(desk.would(c, 0, quantity)).append(' ');
+            }
+        }
+        return all.toString();
+    }
+
+    /** Of two desks made alike one gets a call: it stays like the other, behind each undo and in its tape too. */
+    static void changesNothing(String call, Supplier<TankerDesk> make, Consumer<TankerDesk> refused) {
+        TankerDesk one = make.get();
+        TankerDesk other = make.get();
+        refused.accept(one);
+        due(call + " changes nothing", wholePicture(one).equals(wholePicture(other)), true);
+        for (int left = other.now(8); left >= 0; left--) {
+            due(call + " lets undo() be", one.undo(), other.undo());
+            due(call + " changes nothing that undo() brings back", wholePicture(one).equals(wholePicture(other)), true);
+        }
+        due(call + " lets the tape be", one.text(), other.text());
+        due(call + " lets the fault of the tape be", one.fault(), other.fault());
+        due(call + " lets what the tape tells be", wholePicture(one).equals(wholePicture(other)), true);
     }
 
     static void finish() {
