@@ -194,6 +194,7 @@ public final class DeskEdgesTest {
         Check.due("LOW is HIGH", standsWith("10 0 0 0 9999 9999 100 50 50", "open", 10, 5), 0);
         // CAP counts, not TOP.
         Check.due("4 of 10, TOP 5", standsWith("10 0 0 0 9999 9999 50 20 80", "open", 10, 4), 1);
+        Check.due("3 of 10, TOP 5", standsWith("10 0 0 0 9999 9999 50 50 100", "open", 10, 3), 0);
         // The last of five, all others empty.
         TankerDesk desk = Check.desk("tanker 10 0 0 0 9999 9999 100 20 80;" + compartments(10, 4, 5) + "liquid 1;");
         Check.due("the fifth", desk.would(4, 0, 5), 1);
@@ -520,6 +521,10 @@ public final class DeskEdgesTest {
         edge.put(0, 0);
         Check.due("above MOST", edge.now(6), 2);
         Check.due("at all limits", edge.without(0), 0);
+        edge = Check.desk("tanker 2 3 4 3 9 4 100 0 0;compartment 9 1 open;compartment 1 1 open;liquid 1;drop 0 9;drop 0 2;");
+        edge.put(0, 0);
+        edge.put(1, 1);
+        Check.due("half of one above HIND", edge.without(0), 4);
         desk.cancel(3);
         Check.due("it is cancelled", desk.without(3), -1);
         desk.unload(1, 10);

@@ -621,6 +621,10 @@ public final class TextEdgesTest {
         fails(" ".repeat(701), 700, 1);
         fails(padded("tanker", 701), 700, 1);
         fails(padded("tanker 9 0 0 0 0 0 1 0 0", 740), 700, 1);
+        // A number is lacked there: it is the end that comes, whatever number was ahead.
+        fails(padded("tanker 9 0 0 0 0 0", 740), 700, 1);
+        fails(padded(TOLD + "drop 0", 701), 700, 1);
+        fails(padded(TOLD + "bar 0", 701), 700, 1);
         // The last sign ends a line at byte 700, or is one too far.
         reads(padded(HEAD + "liquid 1", 699) + ";", 2);
         fails(padded(HEAD + "liquid 1", 700) + ";", 700, 1);
