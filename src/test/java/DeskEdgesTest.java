@@ -946,6 +946,13 @@ public final class DeskEdgesTest {
         Check.due("what lay there stays", desk.compartment(2, 4), 9);
         Check.due("it serves none", desk.load(), -1);
         Check.due("no further act", desk.now(8), 2);
+        // All five compartments, to the last.
+        desk = Check.desk(FREE + compartments(9, 5, 5) + "liquid 1;drop 0 37;drop 0 4995;");
+        Check.due("all five", desk.load(), 1);
+        for (int c = 0; c < 5; c++) {
+            Check.due("held by " + c, desk.compartment(c, 4), c < 4 ? 9 : 1);
+            Check.due("of which drop", desk.compartment(c, 5), 0);
+        }
         // What waits stays, and bars every plan.
         desk = Check.desk("tanker 1 0 0 0 8 99 100 0 0;" + compartments(9, 0, 2) + "liquid 1;drop 0 10;drop 0 1;");
         desk.put(0, 0);
