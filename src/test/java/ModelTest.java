@@ -16,8 +16,11 @@ public final class ModelTest {
     public static void main(String[] args) {
         Random random = new Random(20261118);
         int[] seen = new int[8];
+        TankerDesk desk = new TankerDesk();
         for (int i = 0; i < OBJECTS; i++) {
-            run(random, i, seen);
+            // Half of the texts are told to a desk that has been used: nothing of the former one may be left.
+            desk = random.nextBoolean() ? new TankerDesk() : desk;
+            run(random, i, desk, seen);
         }
         String[] names = {"plans of two and more", "no plan", "washes of one and more", "no washes", "no order",
             "some orders of all", "loads", "unloads"};
@@ -27,18 +30,29 @@ public final class ModelTest {
         Check.finish();
     }
 
-    private static void run(Random random, int number, int[] seen) {
+    private static void run(Random random, int number, TankerDesk desk, int[] seen) {
         Model model = new Model(random);
-        TankerDesk desk = Check.desk(model.text());
+        Check.due(number + " text", Check.tell(desk, model.text()), model.lines());
         for (int call = 0; call < ACTS; call++) {
             String name = number + "." + call + " ";
             act(random, name, model, desk);
+            if (random.nextInt(20) == 0) {
+                spoiltText(random, name, desk);
+            }
             if (call % 3 == 0) {
                 ask(random, name, model, desk, seen);
             }
         }
         seen[6] += model.loads;
         seen[7] += model.unloads;
+    }
+
+    /** Another text whose last sign is wanting: all stays. */
+    private static void spoiltText(Random random, String name, TankerDesk desk) {
+        String text = new Model(random).text().trim();
+        int place = text.length() - 1;
+        Check.due(name + "a text that ends too early", Check.tell(desk, text.substring(0, place)), -1 - place);
+        Check.due(name + "its fault", desk.fault(), 1);
     }
 
     private static int any(Random random, int bound) {
@@ -226,6 +240,11 @@ public final class ModelTest {
                 all.append(' ').append(number);
             }
             return all.append(";").append(tail).toString();
+        }
+
+        /** Each line ends with a sign, and nothing else has one. */
+        int lines() {
+            return text().split(";", -1).length - 1;
         }
 
         int top(int c) {
